@@ -157,6 +157,8 @@ public final class CheckingTest {
         body("br 0 i32.add drop");
         wrong("block br 1 end i32.add drop", 3);
         wrong("unreachable local.get 0 drop", 1);
+        wrong("block unreachable end block drop end", 4);
+        Expect.invalid("(module(func unreachable)(func drop))", 64);
         wrong("unreachable br 1", 1);
         wrong("unreachable call 1", 1);
     }

@@ -77,6 +77,8 @@ public final class GrammarTest {
         Expect.malformed("(module(func i32.const 1 if block @else end end))");
         Expect.malformed("(module(func block end @end))");
         Expect.malformed("(module(func block end @$a))");
+        Expect.malformed("(module(func block $a end block end @$a))");
+        Expect.malformed("(module(func block $a end block br @$a end))");
         Expect.malformed("(module(func block $a end @$b))");
         Expect.malformed("(module(func block $a end @$aa))");
         Expect.malformed("(module(func block $aa end @$a))");

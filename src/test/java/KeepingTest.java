@@ -11,6 +11,7 @@ public final class KeepingTest {
         assembleKeeps();
         placeStays();
         modulesFollow();
+        textsFollow();
         Expect.finish();
     }
 
@@ -79,5 +80,37 @@ public final class KeepingTest {
         Expect.same("functions()", x.functions(), 0);
         Expect.same("function(0, 0)", x.function(0, 0), -1);
         Expect.same("instruction(0, 0)", x.instruction(0, 0), -1);
+    }
+
+    /** Nothing of an earlier text, fine or not, is left when the next one is read and checked. */
+    private static void textsFollow() {
+        StackAssembler x = new StackAssembler();
+        String[] texts = {
+            "(module(func(result i64)unreachable))", "fine 1",
+            "(module(func(result i64)unreachable))", "fine 1",
+            "(module(func))", "fine 1",
+            "(module(func))", "fine 1",
+            "(module(func      $f))", "fine 1",
+            "(module(func call $f))", "malformed 18",
+            "(module(func(param           $x i32)))", "fine 1",
+            "(module(func(param i32)local.get $x))", "malformed 33",
+            "(module(func(local i64)i64.const 1 i64.const 2))", "invalid 2",
+            "(module(func drop))", "invalid 0",
+            "(module(func block block i32.const 1 end end))", "invalid 3",
+            "(module(func))", "fine 1",
+            "(module(func block block i32.const 1 end end))", "invalid 3",
+            "(module(func br 1))", "invalid 0",
+            "(module(func unreachable))", "fine 1",
+            "(module(func drop))", "invalid 0",
+            "(module(func block $a i32.const", "malformed 31",
+            "(module)", "fine 0",
+            "(module(func block $a end", "malformed 25",
+            "(module(func $a))", "fine 1",
+        };
+        for (int k = 0; k < texts.length; k += 2) {
+            Expect.write(x, texts[k]);
+            Expect.same("assemble of " + texts[k], Expect.outcome(x), texts[k + 1]);
+        }
+        Expect.same("function(0, 2)", x.function(0, 2), 0);
     }
 }

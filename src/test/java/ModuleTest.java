@@ -8,6 +8,7 @@ public final class ModuleTest {
         types(x);
         instructions(x);
         fullModule();
+        allCodes();
         Expect.finish();
     }
 
@@ -62,6 +63,26 @@ public final class ModuleTest {
         }
         Expect.same("instruction(0, 0)", x.instruction(0, 0), -1);
         Expect.same("instruction(2, 0)", x.instruction(2, 0), -1);
+    }
+
+    /** Whatever has no immediate here stands in unreachable code, which gives it what it takes. */
+    private static void allCodes() {
+        String[] words = {"unreachable", "nop", "block end", "loop end", "if else end", "br 0", "br_if 0", "return",
+            "call 0", "drop", "select", "local.get 1", "local.set 1", "local.tee 1", "i32.const -9", "i64.const 9",
+            "i32.eqz", "i32.eq", "i32.lt_s", "i32.add", "i32.sub", "i32.mul", "i64.eqz", "i64.eq", "i64.add", "i64.mul",
+            "i32.wrap_i64", "i64.extend_i32_s"};
+        int[] codes = {0x00, 0x01, 0x02, 0x03, 0x04, 0x0C, 0x0D, 0x0F, 0x10, 0x1A, 0x1B, 0x20, 0x21, 0x22, 0x41, 0x42,
+            0x45, 0x46, 0x48, 0x6A, 0x6B, 0x6C, 0x50, 0x51, 0x7C, 0x7E, 0xA7, 0xAC};
+        long[] immediates = {0, 0, 0, 0, 0, 0, 0, 0, 0, 0, 0, 1, 1, 1, -9, 9};
+        for (int k = 0; k < words.length; k++) {
+            StackAssembler x = Expect.assembled("(module(func(local i32 i64)unreachable " + words[k] + " unreachable))");
+            Expect.same("the code of " + words[k], x.instruction(0, 1), codes[k]);
+            long immediate = k < immediates.length ? immediates[k] : 0;
+            Expect.same("the immediate of " + words[k], x.immediate(0, 1), immediate);
+        }
+        StackAssembler x = Expect.assembled("(module(func unreachable if else end))");
+        Expect.same("the code of else", x.instruction(0, 2), 0x05);
+        Expect.same("the code of end", x.instruction(0, 3), 0x0B);
     }
 
     private static void fullModule() {

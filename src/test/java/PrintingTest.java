@@ -6,6 +6,7 @@ public final class PrintingTest {
         numbers();
         keepsTheLimit();
         textGoesOn();
+        printsAgain();
         Expect.finish();
     }
 
@@ -105,6 +106,23 @@ public final class PrintingTest {
         } catch (UnsupportedOperationException e) {
             return true;
         }
+    }
+
+    private static void printsAgain() {
+        StackAssembler x = Expect.assembled("(module(func (nop)))");
+        Expect.same("print()", x.print(), 18);
+        x.wipe();
+        Expect.same("print()", x.print(), 18);
+        Expect.same("text", Expect.text(x), "(module(func nop))");
+        String tight = "(module(func" + " i64.const 9223372036854775808".repeat(9) + " return" + " br 0".repeat(5) + "))";
+        Expect.write(x, tight);
+        x.assemble();
+        Expect.same("print throws", throwsAtPrint(x), true);
+        Expect.same("text", Expect.text(x), tight);
+        Expect.write(x, "(module (func))");
+        x.assemble();
+        Expect.same("print()", x.print(), 14);
+        Expect.same("text", Expect.text(x), "(module(func))");
     }
 
     private static void textGoesOn() {
