@@ -64,7 +64,7 @@ public final class AnyTextTest {
         String module = Expect.module(x);
         x.encode();
         String bytes = Expect.bytes(x);
-        if (printThrows(x)) {
+        if (Expect.printThrows(x)) {
             return;
         }
         Expect.same("printed and assembled " + text, Expect.outcome(x), "fine " + x.functions());
@@ -74,15 +74,6 @@ public final class AnyTextTest {
         String printed = Expect.text(x);
         x.print();
         Expect.same("printed again", Expect.text(x), printed);
-    }
-
-    private static boolean printThrows(StackAssembler x) {
-        try {
-            x.print();
-            return false;
-        } catch (UnsupportedOperationException e) {
-            return true;
-        }
     }
 
     private static void dependsOnNothingBehind(StackAssembler x, String text, String outcome) {

@@ -3,20 +3,38 @@ final class Expect {
     private static final char MARK = '@';
     private static int wrong = 0;
     private static int asked = 0;
+    private static int askedBefore = 0;
+    private static String sentence = "";
 
     private Expect() {
+    }
+
+    /** Begins the test of one sentence of the document: these are its words, told with each wrong answer. */
+    static void sentence(String words) {
+        endSentence();
+        sentence = words;
+    }
+
+    private static void endSentence() {
+        if (!sentence.isEmpty() && asked == askedBefore) {
+            wrong++;
+            System.out.println("nothing was asked of: " + sentence);
+        }
+        askedBefore = asked;
     }
 
     static void same(String what, Object got, Object due) {
         asked++;
         if (!got.equals(due)) {
             wrong++;
-            System.out.println(what + " answered " + got + ", due is " + due);
+            String where = sentence.isEmpty() ? "" : ", by: " + sentence;
+            System.out.println(what + " answered " + got + ", due is " + due + where);
         }
     }
 
     /** Ends the test: with exit code 1 if an answer was wrong. */
     static void finish() {
+        endSentence();
         System.out.println(asked + " answers, " + wrong + " of them wrong");
         if (wrong != 0 || asked == 0) {
             System.exit(1);
@@ -54,23 +72,41 @@ final class Expect {
         return x;
     }
 
+    static boolean printThrows(StackAssembler x) {
+        try {
+            x.print();
+            return false;
+        } catch (UnsupportedOperationException e) {
+            return e.getClass() == UnsupportedOperationException.class;
+        }
+    }
+
     /** What assemble does, in words: its answer, or what is thrown with the place. */
     static String outcome(StackAssembler x) {
         try {
             return "fine " + x.assemble();
-        } catch (IllegalArgumentException e) {
-            return "malformed " + x.place();
-        } catch (UnsupportedOperationException e) {
-            return "too much " + x.place();
-        } catch (IllegalStateException e) {
-            return "invalid " + x.place();
+        } catch (RuntimeException e) {
+            return kind(e.getClass()) + " " + x.place();
         }
     }
 
+    /** These classes themselves are due, none that extends them. */
+    private static String kind(Class<?> thrown) {
+        if (thrown == IllegalArgumentException.class) {
+            return "malformed";
+        }
+        if (thrown == UnsupportedOperationException.class) {
+            return "too much";
+        }
+        return thrown == IllegalStateException.class ? "invalid" : thrown.getName();
+    }
+
     static void fine(String text) {
-        StackAssembler x = typed(text);
-        int functions = text.split("\\(func").length - 1;
-        same("assemble of " + text, outcome(x), "fine " + functions);
+        fine(text, text.split("\\(func").length - 1);
+    }
+
+    static void fine(String text, int functions) {
+        same("assemble of " + text, outcome(typed(text)), "fine " + functions);
     }
 
     /** The mark stands in the text before the token that is at fault. */
@@ -94,8 +130,10 @@ final class Expect {
 
     static String text(StackAssembler x) {
         StringBuilder all = new StringBuilder();
-        for (int k = 0; x.character(k) != 0; k++) {
-            all.append(x.character(k));
+        char one = x.character(0);
+        for (int k = 1; one != 0; k++) {
+            all.append(one);
+            one = x.character(k);
         }
         return all.toString();
     }

@@ -89,7 +89,7 @@ public final class PrintingTest {
         String module = Expect.module(x);
         int place = x.place();
         for (int n = 0; n < 2; n++) {
-            Expect.same("print throws", throwsAtPrint(x), true);
+            Expect.same("print throws", Expect.printThrows(x), true);
             Expect.same("text", Expect.text(x), text);
             Expect.same("module", Expect.module(x), module);
             Expect.same("place()", x.place(), place);
@@ -97,15 +97,6 @@ public final class PrintingTest {
         Expect.write(x, "(module)");
         x.assemble();
         Expect.same("print()", x.print(), 8);
-    }
-
-    private static boolean throwsAtPrint(StackAssembler x) {
-        try {
-            x.print();
-            return false;
-        } catch (UnsupportedOperationException e) {
-            return true;
-        }
     }
 
     private static void printsAgain() {
@@ -117,7 +108,7 @@ public final class PrintingTest {
         String tight = "(module(func" + " i64.const 9223372036854775808".repeat(9) + " return" + " br 0".repeat(5) + "))";
         Expect.write(x, tight);
         x.assemble();
-        Expect.same("print throws", throwsAtPrint(x), true);
+        Expect.same("print throws", Expect.printThrows(x), true);
         Expect.same("text", Expect.text(x), tight);
         Expect.write(x, "(module (func))");
         x.assemble();
