@@ -50,7 +50,6 @@ public final class EdgesOfBranchesTest {
         fine("block (result i32) br 1 br 0 end drop");
         invalid("block (result i32) unreachable" + J + "br 0 end drop", 3);
         invalid("block (result i64) unreachable" + I + "br 0 end drop", 3);
-        invalid("block (result i32) br 0 end drop", 1);
         // What makes a frame unreachable does so to the innermost alone.
         invalid("block br 1 end drop", 3);
         invalid("block br 1 end i32.add drop", 3);
@@ -107,7 +106,6 @@ public final class EdgesOfBranchesTest {
         // Behind what makes the frame unreachable.
         fine("(result i32) unreachable return");
         invalid("(result i32) unreachable" + J + "return", 2);
-        invalid("(result i64) return", 0);
         invalid("(result i64)" + J + "return" + I + "return", 3);
         invalid("(result i64) unreachable block return end", 2);
         // The innermost frame alone becomes unreachable.

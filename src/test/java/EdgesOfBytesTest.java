@@ -17,6 +17,7 @@ public final class EdgesOfBytesTest {
         signedLongsAtEachByte();
         signedEnds();
         becomes();
+        becomesOthers();
         octets();
         Expect.finish();
     }
@@ -232,6 +233,23 @@ public final class EdgesOfBytesTest {
         x.assemble();
         Expect.same("encode() of the shortest module", x.encode(), 8);
         Expect.same("octet(8)", x.octet(8), -1);
+    }
+
+    /** What an earlier module left in the rows that are used again must not be seen. */
+    private static void becomesOthers() {
+        Expect.sentence("The bytes become those of the module: how many they are.");
+        StackAssembler x = Expect.assembled("(module(func)(func(param i32))(func(param i64))(func(param i32 i64)))");
+        Expect.same("encode() of four signatures", x.encode(), 49);
+        String[] texts = {"(module(func))", "(module(func(param i64))(func))", "(module(func)(func)(func))"};
+        String[] due = {NO_SIGNATURE + "03020100" + "0A040102000B",
+            "01080260017E00600000" + "0303020001" + "0A0702" + "02000B".repeat(2),
+            NO_SIGNATURE + "030403000000" + "0A0A03" + "02000B".repeat(3)};
+        for (int n = 0; n < texts.length; n++) {
+            Expect.write(x, texts[n]);
+            x.assemble();
+            Expect.same("encode of " + texts[n], x.encode(), (HEADER + due[n]).length() / 2);
+            Expect.same("bytes of " + texts[n], Expect.bytes(x), HEADER + due[n]);
+        }
     }
 
     private static void octets() {

@@ -228,6 +228,14 @@ public final class EdgesOfPrintTest {
         }
         Expect.same("type behind it", x.type('!'), true);
         Expect.same("text", Expect.text(x), "another text!");
+        // Also when an earlier print, which did not throw, made the text.
+        x = Expect.assembled("(module (func nop))");
+        x.print();
+        x.print();
+        Expect.write(x, text);
+        x.assemble();
+        Expect.same("print throws", Expect.printThrows(x), true);
+        Expect.same("text", Expect.text(x), text);
     }
 
     private static void textBecomes() {

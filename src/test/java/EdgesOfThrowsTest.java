@@ -29,6 +29,7 @@ public final class EdgesOfThrowsTest {
         placeOfNone();
         refusedTypeChangesNothing();
         kinds();
+        manyCalls();
         Expect.finish();
     }
 
@@ -166,5 +167,23 @@ public final class EdgesOfThrowsTest {
         Expect.tooMuch("(module(func drop)(func)(func)(func)(@func))");
         Expect.malformed("(module(func drop)@");
         Expect.invalid("(module(func drop)(func))", 0);
+    }
+
+    /** The last of 512 calls answers as the first ones did, whatever they were. */
+    private static void manyCalls() {
+        Expect.sentence("An object is used for at most 512 calls after it has been made");
+        StackAssembler x = new StackAssembler();
+        for (int calls = 0; calls + 3 < 512; calls += 3) {
+            x.wipe();
+            Expect.same("type", x.type(Expect.eight("(module)")), true);
+            Expect.same("assemble", Expect.outcome(x), "fine 0");
+        }
+        Expect.same("functions()", x.functions(), 0);
+        // Four calls write this text, and each round is two.
+        x = Expect.typed("(module(func call $f))");
+        for (int calls = 4; calls + 2 < 512; calls += 2) {
+            Expect.same("assemble, and place", Expect.outcome(x), "malformed 18");
+        }
+        Expect.same("functions()", x.functions(), 0);
     }
 }

@@ -92,6 +92,8 @@ public final class KeepingTest {
             "(module(func))", "fine 1",
             "(module(func      $f))", "fine 1",
             "(module(func call $f))", "malformed 18",
+            "(module(func)(func $f))", "fine 2",
+            "(module(func  call $f))", "malformed 19",
             "(module(func(param           $x i32)))", "fine 1",
             "(module(func(param i32)local.get $x))", "malformed 33",
             "(module(func(local i64)i64.const 1 i64.const 2))", "invalid 2",
