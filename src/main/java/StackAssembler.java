@@ -1329,12 +1329,12 @@ public final class StackAssembler {
 
         private void addRuns(Function function) {
             int runs = 0;
-            for (int k = function.parameters; function.hasSlot(k); k++) {
+            for (int k = function.parameters; k < SLOT_LIMIT && function.hasSlot(k); k++) {
                 runs += endsRun(function, k) ? 1 : 0;
             }
             addUnsigned(runs);
             int run = 0;
-            for (int k = function.parameters; function.hasSlot(k); k++) {
+            for (int k = function.parameters; k < SLOT_LIMIT && function.hasSlot(k); k++) {
                 run++;
                 if (endsRun(function, k)) {
                     addUnsigned(run);

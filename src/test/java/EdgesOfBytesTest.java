@@ -2,6 +2,8 @@
 public final class EdgesOfBytesTest {
     private static final String HEADER = "0061736D01000000";
     private static final String NO_SIGNATURE = "010401600000";
+    private static final String EIGHT_RUNS = "(local i32 i64 i32 i64 i32 i64 i32 i64)";
+    private static final String EIGHT_RUNS_BYTES = "08" + "017F017E".repeat(4);
 
     public static void main(String[] args) {
         withoutFunctions();
@@ -13,6 +15,8 @@ public final class EdgesOfBytesTest {
         bodies();
         unsignedOfOneByte();
         unsignedOfTwoBytes();
+        functionOf127Bytes();
+        functionOf128Bytes();
         signedIntsAtEachByte();
         signedLongsAtEachByte();
         signedEnds();
@@ -152,9 +156,9 @@ public final class EdgesOfBytesTest {
 
     private static void unsignedOfTwoBytes() {
         Expect.sentence("128 more on all but the last; unsigned");
-        // Four functions with locals of eight runs have the longest code that a text can have.
-        String locals = "(local i32 i64 i32 i64 i32 i64 i32 i64)";
-        String runs = "08" + "017F017E".repeat(4);
+        // Four functions with locals of eight runs: the section reaches 128 bytes while each function is far below.
+        String locals = EIGHT_RUNS;
+        String runs = EIGHT_RUNS_BYTES;
         for (int nops = 0; nops <= 1; nops++) {
             for (int brs = 20; brs + nops <= 26; brs++) {
                 String codes = "0C00".repeat(brs) + "01".repeat(nops);
@@ -167,6 +171,45 @@ public final class EdgesOfBytesTest {
                         + sized(runs + "0B").repeat(3));
             }
         }
+    }
+
+    private static String longFunction(int brs, int ifs) {
+        return "(module(func" + EIGHT_RUNS + "br 0" + " br 0".repeat(brs - 1) + " if end".repeat(ifs) + "))";
+    }
+
+    /** What follows the size of such a function. */
+    private static String longBody(int brs, int ifs) {
+        return EIGHT_RUNS_BYTES + "0C00".repeat(brs) + "04400B".repeat(ifs) + "0B";
+    }
+
+    private static void functionOf127Bytes() {
+        Expect.sentence("10: for each function the size of what follows");
+        String body = longBody(32, 15);
+        Expect.same("the size of the function", body.length() / 2, 127);
+        encoded(longFunction(32, 15), NO_SIGNATURE + "03020100" + "0A" + "8101" + "01" + "7F" + body);
+    }
+
+    private static void functionOf128Bytes() {
+        Expect.sentence("10: for each function the size of what follows");
+        String text = longFunction(31, 16);
+        String body = longBody(31, 16);
+        Expect.same("the length of the text", text.length(), 319);
+        Expect.same("the size of the function", body.length() / 2, 128);
+        encoded(text, NO_SIGNATURE + "03020100" + "0A" + "8301" + "01" + "8001" + body);
+        StackAssembler x = Expect.assembled(text);
+        Expect.same("how many instructions", x.function(0, 3), 63);
+        Expect.same("encode()", x.encode(), 152);
+        Expect.same("octet(-1)", x.octet(-1), 152);
+        Expect.same("octet(19), of the section's size", x.octet(19), 0x83);
+        Expect.same("octet(20), of the section's size", x.octet(20), 0x01);
+        Expect.same("octet(22), of the function's size", x.octet(22), 0x80);
+        Expect.same("octet(23), of the function's size", x.octet(23), 0x01);
+        Expect.same("octet(151), the last one", x.octet(151), 0x0B);
+        Expect.same("octet(152)", x.octet(152), -1);
+        Expect.same("print()", x.print(), 320);
+        Expect.same("what is printed", Expect.text(x), text.replace(")br 0", ") br 0"));
+        Expect.same("assemble of what is printed", Expect.outcome(x), "fine 1");
+        Expect.same("encode() of what is printed", x.encode(), 152);
     }
 
     private static void number(String word, long value, String code) {

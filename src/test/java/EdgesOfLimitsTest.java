@@ -11,6 +11,7 @@ public final class EdgesOfLimitsTest {
         parameterTooMany();
         slots();
         slotTooMany();
+        secondNameAheadOfTypeTooMany();
         results();
         instructions();
         sixtyFifthWord();
@@ -105,6 +106,19 @@ public final class EdgesOfLimitsTest {
         Expect.malformed("(module(func(local" + SIX + " i32 i32 @nop)))");
         Expect.malformed("(module(func(local" + SIX + " i32 i32)(local $x @)))");
         Expect.tooMuch("(module(func(local" + SIX + " i32 i32))(func(local" + SIX + " i32 i32 @i32)))");
+    }
+
+    private static void secondNameAheadOfTypeTooMany() {
+        Expect.sentence("What comes first in the text decides between MALFORMED and TOO MUCH.");
+        String sixParams = "(module(func(param $a i64)(param" + " i32".repeat(4) + ")(param $b i32)";
+        Expect.malformed(sixParams + "(param @$a i32)))");
+        Expect.malformed(sixParams + "(param @$b i32)))");
+        Expect.tooMuch(sixParams + "(param $c @i32)))");
+        String eight = sixParams + "(local $c i32)(local $d i64)";
+        for (String name : new String[] {"$a", "$b", "$c", "$d"}) {
+            Expect.malformed(eight + "(local @" + name + " i32)))");
+        }
+        Expect.tooMuch(eight + "(local $e @i32)))");
     }
 
     private static void results() {

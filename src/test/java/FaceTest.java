@@ -35,8 +35,22 @@ public final class FaceTest {
             int modifiers = inside.getModifiers();
             Expect.same(inside + " is static", Modifier.isStatic(modifiers), true);
             Expect.same(inside + " is hidden", Modifier.isPublic(modifiers) || Modifier.isProtected(modifiers), false);
+            bearsNoNameOf(face, inside);
         }
+        bearsNoNameOf(face, face);
         Expect.finish();
+    }
+
+    /** No private method bears the name of a public one. */
+    private static void bearsNoNameOf(Class<?> face, Class<?> looked) {
+        for (Method method : looked.getDeclaredMethods()) {
+            boolean taken = false;
+            for (Method open : face.getMethods()) {
+                taken = taken || open.getName().equals(method.getName());
+            }
+            boolean hidden = Modifier.isPrivate(method.getModifiers());
+            Expect.same(method + " is private and bears the name of a public one", hidden && taken, false);
+        }
     }
 
     private static String written(Method method) {
